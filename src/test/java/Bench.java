@@ -18,7 +18,7 @@ final class Bench {
         try {
             return Integer.toString(rig.set(k, takes, then, last, value));
         } catch (RuntimeException e) {
-            return nameOf(e);
+            return thrownByRig(e);
         }
     }
 
@@ -26,7 +26,7 @@ final class Bench {
         try {
             return Long.toString(rig.run(top, bottom, v));
         } catch (RuntimeException e) {
-            return nameOf(e);
+            return thrownByRig(e);
         }
     }
 
@@ -34,7 +34,7 @@ final class Bench {
         try {
             return Integer.toString(rig.note(i));
         } catch (RuntimeException e) {
-            return nameOf(e);
+            return thrownByRig(e);
         }
     }
 
@@ -42,12 +42,23 @@ final class Bench {
         try {
             return Integer.toString(rig.count(what));
         } catch (RuntimeException e) {
-            return nameOf(e);
+            return thrownByRig(e);
         }
     }
 
     static String nameOf(RuntimeException e) {
         return "throws." + e.getClass().getSimpleName();
+    }
+
+    /**
+     * The class throws with written texts alone, so another text, or none, shows that the machine threw
+     * in it, which it never may.
+     */
+    private static String thrownByRig(RuntimeException e) {
+        String text = e.getMessage();
+        boolean byMachine = text == null || text.startsWith("Index ") || text.startsWith("Cannot ")
+                || text.equals("/ by zero");
+        return byMachine ? "machine." + nameOf(e) : nameOf(e);
     }
 
     static void due(String call, String got, String want) {
