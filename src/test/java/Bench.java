@@ -9,10 +9,19 @@ final class Bench {
     static final String GRIT = "throws.IllegalStateException";
     static final String SHARD = "throws.UnsupportedOperationException";
 
+    /** A BOTTOM from which each KIND comes, with a v below 0. */
+    static final int[] BOTTOM_OF_KIND = {0, 1, 2, 3, 4, 6};
+    /** What a run throws for each KIND that comes out of it. */
+    static final String[] OUT_OF_RUN = {"", GRIT, SHARD, DIVISION, NO_REFERENCE, NO_INDEX};
+
+    /** What an object answers later is free. */
+    static final int PROMISED_CALLS = 512;
+
     private static int compared = 0;
     private static int wrong = 0;
 
-    final UnwindRig rig = new UnwindRig();
+    private final UnwindRig rig = new UnwindRig();
+    private int calls = 0;
 
     static String setOf(UnwindRig rig, int k, int takes, int then, int last, int value) {
         try {
@@ -50,15 +59,17 @@ final class Bench {
         return "throws." + e.getClass().getSimpleName();
     }
 
-    /**
-     * The class throws with written texts alone, so another text, or none, shows that the machine threw
-     * in it, which it never may.
-     */
+    /** The machine never may throw in the class; its texts, or its bare exceptions, tell that it did. */
     private static String thrownByRig(RuntimeException e) {
+        return isOfMachine(e) ? "machine." + nameOf(e) : nameOf(e);
+    }
+
+    private static boolean isOfMachine(RuntimeException e) {
         String text = e.getMessage();
-        boolean byMachine = text == null || text.startsWith("Index ") || text.startsWith("Cannot ")
-                || text.equals("/ by zero");
-        return byMachine ? "machine." + nameOf(e) : nameOf(e);
+        if (text == null) {
+            return e.getStackTrace().length == 0;
+        }
+        return text.startsWith("Index ") || text.startsWith("Cannot ") || text.equals("/ by zero");
     }
 
     static void due(String call, String got, String want) {
@@ -79,18 +90,30 @@ final class Bench {
         }
     }
 
+    private UnwindRig rigForACall() {
+        calls++;
+        if (calls > PROMISED_CALLS) {
+            throw new IllegalStateException("this test asks one object more than it promises");
+        }
+        return rig;
+    }
+
+    int callsLeft() {
+        return PROMISED_CALLS - calls;
+    }
+
     void set(int k, int takes, int then, int last, int value, String want) {
         String call = "set(" + k + ", " + takes + ", " + then + ", " + last + ", " + value + ")";
-        due(call, setOf(rig, k, takes, then, last, value), want);
+        due(call, setOf(rigForACall(), k, takes, then, last, value), want);
     }
 
     /** A set whose answer is not what the test is about. */
     void put(int k, int takes, int then, int last, int value) {
-        rig.set(k, takes, then, last, value);
+        rigForACall().set(k, takes, then, last, value);
     }
 
     void run(int top, int bottom, int v, String want) {
-        due("run(" + top + ", " + bottom + ", " + v + ")", runOf(rig, top, bottom, v), want);
+        due("run(" + top + ", " + bottom + ", " + v + ")", runOf(rigForACall(), top, bottom, v), want);
     }
 
     void run(int top, int bottom, int v, long want) {
@@ -98,11 +121,11 @@ final class Bench {
     }
 
     void note(int i, String want) {
-        due("note(" + i + ")", noteOf(rig, i), want);
+        due("note(" + i + ")", noteOf(rigForACall(), i), want);
     }
 
     void count(int what, String want) {
-        due("count(" + what + ")", countOf(rig, what), want);
+        due("count(" + what + ")", countOf(rigForACall(), what), want);
     }
 
     /** The NOTES are these and no others. */

@@ -7,6 +7,8 @@ public final class CountTest {
         tellsKindAndNumber();
         tellsCauses();
         forgetsWithAnAnswer();
+        staysBehindRefusedCalls();
+        isNoChange();
         Bench.end();
     }
 
@@ -117,5 +119,46 @@ public final class CountTest {
         bench.put(1, 0, 0, 0, 12);
         bench.run(2, 1, 5, 13);
         bench.out(0, 0, 0, 0, 0);
+    }
+
+    private static void refusedCalls(Bench bench) {
+        int[] others = {-1, 6, Integer.MIN_VALUE, Integer.MAX_VALUE};
+        for (int k : others) {
+            bench.run(k, 1, 77, Bench.NO_INDEX);
+            bench.set(k, 31, 0, 1, 77, Bench.NO_INDEX);
+        }
+        bench.note(-1, Bench.NO_INDEX);
+        bench.count(7, Bench.NO_REFERENCE);
+    }
+
+    private static void staysBehindRefusedCalls() {
+        Bench bench = new Bench();
+        refusedCalls(bench);
+        for (int what = 0; what <= 6; what++) {
+            bench.count(what, "0");
+        }
+        bench.put(0, 31, 2, 0, 11);
+        bench.put(1, 31, 3, 0, 12);
+        bench.run(2, 2, -3, Bench.SHARD);
+        refusedCalls(bench);
+        bench.out(2, 12, 2, 2, -3);
+        bench.count(1, "1");
+        bench.notes(2, 1, 0, 200, 600, 101, 601, 602);
+        bench.run(0, 0, -3, -3);
+        refusedCalls(bench);
+        bench.out(0, 0, 0, 0, 0);
+        bench.count(1, "2");
+        bench.notes(0, 600);
+    }
+
+    private static void isNoChange() {
+        Bench bench = new Bench();
+        bench.put(0, 31, 2, 0, 11);
+        bench.run(0, 3, -3, Bench.GRIT);
+        for (int turn = 0; turn < 3; turn++) {
+            bench.count(0, "3");
+            bench.count(1, "1");
+            bench.out(1, 11, 1, 3, 0);
+        }
     }
 }

@@ -29,12 +29,11 @@ public final class NewObjectTest {
     }
 
     private static void levelsTakeNothing() {
-        String[] dues = {Bench.GRIT, Bench.SHARD, Bench.DIVISION, Bench.NO_REFERENCE,
-            Bench.NO_REFERENCE, Bench.NO_INDEX};
-        for (int bottom = 1; bottom <= 6; bottom++) {
+        for (int kind = 1; kind <= 5; kind++) {
             Bench bench = new Bench();
-            bench.run(5, bottom, 9, dues[bottom - 1]);
+            bench.run(5, Bench.BOTTOM_OF_KIND[kind], -9, Bench.OUT_OF_RUN[kind]);
             bench.notes(5, 4, 3, 2, 1, 0, 600, 601, 602, 603, 604, 605);
+            bench.out(kind, kind <= 2 ? -9 : 0, 0, 0, 0);
         }
     }
 

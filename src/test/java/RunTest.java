@@ -2,9 +2,11 @@
 public final class RunTest {
     private static final int MIN = Integer.MIN_VALUE;
     private static final int MAX = Integer.MAX_VALUE;
+    private static final int[] NO_LEVELS = {-1, 6, 7, 31, MIN, MAX};
 
     public static void main(String[] args) {
         refusesOtherLevels();
+        looksAtTopFirst();
         addsValuesAsLongs();
         reachesEachBottom();
         looksUpSevens();
@@ -19,6 +21,7 @@ public final class RunTest {
         doesEachLastBehindAnAnswer();
         doesEachLastBehindAThrow();
         lastThrowsAreCaughtAbove();
+        throwsOutEachKind();
         beginsAnew();
         Bench.end();
     }
@@ -27,8 +30,7 @@ public final class RunTest {
         Bench bench = new Bench();
         bench.put(0, 0, 0, 0, 4);
         bench.run(1, 2, 8, Bench.SHARD);
-        int[] others = {-1, 6, 7, MIN, MAX};
-        for (int top : others) {
+        for (int top : NO_LEVELS) {
             bench.run(top, 0, 1, Bench.NO_INDEX);
             bench.run(top, 1, 1, Bench.NO_INDEX);
         }
@@ -36,6 +38,21 @@ public final class RunTest {
         bench.count(1, "1");
         bench.out(2, 8, 0, 0, 0);
         bench.set(0, 0, 0, 0, 0, "4");
+    }
+
+    /** Whatever the BOTTOM would do: no LEVEL top is all that counts, on a new object, too. */
+    private static void looksAtTopFirst() {
+        for (int top : NO_LEVELS) {
+            Bench bench = new Bench();
+            for (int bottom = -1; bottom <= 8; bottom++) {
+                bench.run(top, bottom, 5, Bench.NO_INDEX);
+            }
+            bench.notes();
+            bench.count(1, "0");
+            bench.out(0, 0, 0, 0, 0);
+            bench.run(5, 0, 5, 5);
+            bench.count(1, "1");
+        }
     }
 
     private static void addsValuesAsLongs() {
@@ -104,22 +121,19 @@ public final class RunTest {
     }
 
     private static void takesOnlyItsOwnBit() {
-        int[] bottomOfKind = {0, 1, 2, 3, 4, 6};
         for (int kind = 1; kind <= 5; kind++) {
             Bench bench = new Bench();
             int bit = 1 << (kind - 1);
             bench.put(0, bit, 0, 0, 55);
-            bench.run(0, bottomOfKind[kind], -1, 55);
+            bench.run(0, Bench.BOTTOM_OF_KIND[kind], -1, 55);
             bench.notes(0, 100 * kind, 600);
             bench.put(0, ~31 | bit, 0, 0, 56);
-            bench.run(0, bottomOfKind[kind], -1, 56);
+            bench.run(0, Bench.BOTTOM_OF_KIND[kind], -1, 56);
             bench.put(0, ~bit, 0, 0, 55);
-            String[] dues = {"", Bench.GRIT, Bench.SHARD, Bench.DIVISION, Bench.NO_REFERENCE,
-                Bench.NO_INDEX};
-            bench.run(0, bottomOfKind[kind], -1, dues[kind]);
+            bench.run(0, Bench.BOTTOM_OF_KIND[kind], -1, Bench.OUT_OF_RUN[kind]);
             bench.notes(0, 600);
             bench.put(0, MIN, 0, 0, 55);
-            bench.run(0, bottomOfKind[kind], -1, dues[kind]);
+            bench.run(0, Bench.BOTTOM_OF_KIND[kind], -1, Bench.OUT_OF_RUN[kind]);
         }
         Bench bench = new Bench();
         bench.put(0, -1, 0, 0, 5);
@@ -264,6 +278,18 @@ public final class RunTest {
         bench.run(2, 0, 9, Bench.SHARD);
         bench.notes(2, 1, 0, 600, 301, 601, 102, 602);
         bench.out(2, 22, 1, 1, 21);
+    }
+
+    private static void throwsOutEachKind() {
+        for (int top = 0; top <= 5; top++) {
+            for (int kind = 1; kind <= 5; kind++) {
+                Bench bench = new Bench();
+                bench.run(top, Bench.BOTTOM_OF_KIND[kind], -1, Bench.OUT_OF_RUN[kind]);
+                bench.out(kind, kind <= 2 ? -1 : 0, 0, 0, 0);
+                bench.count(0, Integer.toString(2 * top + 2));
+                bench.count(1, "1");
+            }
+        }
     }
 
     private static void beginsAnew() {

@@ -9,6 +9,8 @@ public final class SetTest {
         setsOnlyItsLevel();
         refusesOtherLevels();
         isNoRun();
+        keepsWhatWasSet();
+        refusesOnANewObject();
         Bench.end();
     }
 
@@ -75,5 +77,31 @@ public final class SetTest {
         bench.notes(0, 600);
         bench.count(1, "1");
         bench.out(2, 8, 0, 0, 0);
+    }
+
+    /** A RUN leaves the LEVELS as they are. */
+    private static void keepsWhatWasSet() {
+        Bench bench = new Bench();
+        bench.put(0, 1, 3, 0, 40);
+        bench.put(1, 2, 5, 0, 50);
+        for (int run = 0; run < 3; run++) {
+            bench.run(1, 1, 5, 100);
+            bench.notes(1, 0, 100, 600, 201, 0, 600, 601);
+        }
+        bench.set(1, 0, 0, 0, 0, "50");
+        bench.run(1, 1, 5, Bench.SHARD);
+        bench.out(2, 40, 1, 1, 5);
+        bench.set(0, 0, 0, 0, 0, "40");
+    }
+
+    private static void refusesOnANewObject() {
+        Bench bench = new Bench();
+        bench.set(6, 31, 0, 1, 9, Bench.NO_INDEX);
+        bench.set(-1, 31, 0, 1, 9, Bench.NO_INDEX);
+        bench.count(1, "0");
+        bench.run(5, 1, 4, Bench.GRIT);
+        for (int k = 0; k <= 5; k++) {
+            bench.set(k, 0, 0, 0, 0, "0");
+        }
     }
 }
