@@ -1,61 +1,39 @@
 import com.sun.source.tree.*;
-import com.sun.source.util.JavacTask;
-import com.sun.source.util.SourcePositions;
-import com.sun.source.util.TreeScanner;
-import com.sun.source.util.Trees;
-import java.nio.file.Path;
 import java.util.List;
 import java.util.Set;
 import javax.lang.model.element.Modifier;
-import javax.tools.JavaCompiler;
-import javax.tools.ToolProvider;
 
-/** The rules of LANGUAGE.md that the source's own tree shows; FaceTest has what reflection shows. */
-public final class LanguageTest extends TreeScanner<Void, Void> {
+/**
+ * LANGUAGE.md's rules 1, 2, 5, 6, 10 and 11 in the source's own tree; FaceTest has what reflection
+ * shows, LanguageUseTest the other rules.
+ */
+public final class LanguageTest extends SourceRules {
     private static final Set<String> FACE = Set.of("set", "run", "note", "count");
-    private static final Set<String> IMPORTS = Set.of("java.util.ArrayList", "java.util.List",
-            "java.util.Iterator", "java.util.Arrays", "java.util.NoSuchElementException");
     /** Those of rule 6, and the two that the document names besides. */
     private static final Set<String> EXCEPTIONS = Set.of("IllegalStateException",
             "IllegalArgumentException", "IndexOutOfBoundsException", "ArithmeticException",
             "UnsupportedOperationException", "NoSuchElementException", "RuntimeException",
             "ArrayIndexOutOfBoundsException", "NullPointerException");
+    /** Rule 6: objects have none of their own. */
+    private static final Set<String> OF_OBJECTS = Set.of("equals", "hashCode", "toString");
+    /** Rule 5. */
+    private static final Set<String> CONSTANTS = Set.of("int", "long", "boolean", "char", "String",
+            "int[]", "long[]", "char[]", "byte[]");
     private static final int MOST_PARAMETERS = 7;
     private static final int MOST_LINES = 70;
     private static final int MOST_CLASSES = 13;
     private static final int MOST_FIELDS = 24;
 
-    private final CompilationUnitTree unit;
-    private final SourcePositions places;
     private int classes;
     private MethodTree method;
     private boolean methodThrows;
     private boolean methodTries;
 
-    private LanguageTest(CompilationUnitTree unit, SourcePositions places) {
-        this.unit = unit;
-        this.places = places;
-    }
-
     public static void main(String[] args) throws java.io.IOException {
-        JavaCompiler compiler = ToolProvider.getSystemJavaCompiler();
-        var files = compiler.getStandardFileManager(null, null, null);
-        var sources = files.getJavaFileObjects(Path.of(args[0]));
-        JavacTask task = (JavacTask) compiler.getTask(null, files, null, null, null, sources);
-        CompilationUnitTree unit = task.parse().iterator().next();
-        LanguageTest test = new LanguageTest(unit, Trees.instance(task).getSourcePositions());
-        test.scan(unit, null);
-        test.rule(11, unit, "the file's classes", test.classes <= MOST_CLASSES);
+        LanguageTest test = new LanguageTest();
+        test.scanFile(args[0]);
+        test.rule(11, test.unit(), "the file's classes", test.classes <= MOST_CLASSES);
         Bench.end();
-    }
-
-    private void rule(int number, Tree tree, String what, boolean kept) {
-        Bench.due("rule " + number + ", line " + lineAt(places.getStartPosition(unit, tree)) + ": "
-                + what, kept ? "kept" : "broken", "kept");
-    }
-
-    private long lineAt(long place) {
-        return unit.getLineMap().getLineNumber(Math.max(place, 0));
     }
 
     @Override
@@ -63,13 +41,6 @@ public final class LanguageTest extends TreeScanner<Void, Void> {
         rule(1, tree, "no package", tree.getPackageName() == null);
         rule(1, tree, "one class in the file", tree.getTypeDecls().size() == 1);
         return super.visitCompilationUnit(tree, none);
-    }
-
-    @Override
-    public Void visitImport(ImportTree tree, Void none) {
-        String name = tree.getQualifiedIdentifier().toString();
-        rule(4, tree, "import of " + name, !tree.isStatic() && IMPORTS.contains(name));
-        return null;
     }
 
     @Override
@@ -84,16 +55,23 @@ public final class LanguageTest extends TreeScanner<Void, Void> {
         int fields = 0;
         for (Tree member : tree.getMembers()) {
             if (member instanceof VariableTree) {
-                Set<Modifier> of = ((VariableTree) member).getModifiers().getFlags();
-                fields += of.contains(Modifier.STATIC) ? 0 : 1;
-                rule(5, member, "static fields are final",
-                        !of.contains(Modifier.STATIC) || of.contains(Modifier.FINAL));
+                fields += isConstant((VariableTree) member) ? 0 : 1;
             }
             rule(5, member, "no static block",
                     !(member instanceof BlockTree) || !((BlockTree) member).isStatic());
         }
         rule(11, tree, "a class's fields", fields <= MOST_FIELDS);
         return super.visitClass(tree, none);
+    }
+
+    private boolean isConstant(VariableTree field) {
+        Set<Modifier> flags = field.getModifiers().getFlags();
+        if (!flags.contains(Modifier.STATIC)) {
+            return false;
+        }
+        rule(5, field, "static fields are final", flags.contains(Modifier.FINAL));
+        rule(5, field, "a constant's type", CONSTANTS.contains(field.getType().toString()));
+        return true;
     }
 
     @Override
@@ -108,11 +86,10 @@ public final class LanguageTest extends TreeScanner<Void, Void> {
         Set<Modifier> flags = tree.getModifiers().getFlags();
         rule(1, tree, "no private method is named " + name,
                 !flags.contains(Modifier.PRIVATE) || !FACE.contains(name));
-        rule(10, tree, "not synchronized", !flags.contains(Modifier.SYNCHRONIZED));
+        rule(6, tree, "no " + name + " of its own", !OF_OBJECTS.contains(name));
+        rule(6, tree, "not synchronized", !flags.contains(Modifier.SYNCHRONIZED));
         rule(11, tree, "a method's parameters", tree.getParameters().size() <= MOST_PARAMETERS);
-        long lines = lineAt(places.getEndPosition(unit, tree))
-                - lineAt(places.getStartPosition(unit, tree)) + 1;
-        rule(11, tree, "a method's lines", lines <= MOST_LINES);
+        rule(11, tree, "a method's lines", lines(tree) <= MOST_LINES);
         super.visitMethod(tree, none);
         rule(6, tree, "a throw and a try in one method", !(methodThrows && methodTries));
         method = outer;
@@ -140,11 +117,6 @@ public final class LanguageTest extends TreeScanner<Void, Void> {
     private static boolean isWrittenText(List<? extends ExpressionTree> arguments) {
         return arguments.isEmpty()
                 || arguments.size() == 1 && arguments.get(0).getKind() == Tree.Kind.STRING_LITERAL;
-    }
-
-    private static String simpleName(Tree type) {
-        String name = type.toString();
-        return name.substring(name.lastIndexOf('.') + 1);
     }
 
     @Override
@@ -175,14 +147,6 @@ public final class LanguageTest extends TreeScanner<Void, Void> {
 
     private static boolean isText(Tree tree) {
         return tree.getKind() == Tree.Kind.STRING_LITERAL;
-    }
-
-    @Override
-    public Void visitMethodInvocation(MethodInvocationTree tree, Void none) {
-        String called = tree.getMethodSelect().toString();
-        rule(4, tree, "no " + called, !called.endsWith("Exact") && !called.startsWith("System.")
-                || called.equals("System.arraycopy"));
-        return super.visitMethodInvocation(tree, none);
     }
 
     @Override
